@@ -8,6 +8,7 @@ public final class ImagesTest {
         twoImages();
         emptyImage();
         imagesAreCopies();
+        spellsOfAnImage();
         keepLeavesAllElse();
         goBackForgets();
         due.end();
@@ -119,6 +120,27 @@ public final class ImagesTest {
         x.set(0, 1, 60);
         due.is("goBack(0): the image stays as it was", x.goBack(0), 1);
         due.is("START", x.userOf(0, 1), 1);
+    }
+
+    private static void spellsOfAnImage() {
+        HopMeet x = new HopMeet();
+        x.user(2, 1, 0, 0);
+        x.shut(0, 1, 10, 5);
+        x.shut(-1, 1, 20, 6);
+        x.keep(0);
+        x.channels(4);
+        x.user(2, 1, 0, 0);
+        x.shut(-1, 2, 700, 400);
+        x.shut(0, 3, 800, 300);
+        due.is("goBack(0)", x.goBack(0), 1);
+        int[] slots = {9, 10, 14, 15, 19, 20, 25, 26, 700, 800};
+        int[] why = {0, 3, 3, 0, 0, 3, 3, 0, 0, 0};
+        for (int i = 0; i < slots.length; i++) {
+            due.is("why(0, " + slots[i] + ")", x.why(0, slots[i]), why[i]);
+        }
+        x.user(2, 1, 0, 0);
+        due.is("a spell of another one", x.why(1, 10), 0);
+        due.is("a spell of all", x.why(1, 25), 3);
     }
 
     private static void keepLeavesAllElse() {

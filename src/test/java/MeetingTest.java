@@ -8,7 +8,8 @@ public final class MeetingTest {
         worst();
         worstLeavesOut();
         worstNever();
-        worstLate();
+        worstBySteps();
+        worstWithin();
         bound();
         together();
         even();
@@ -127,21 +128,44 @@ public final class MeetingTest {
         due.is("no bound then", x.bound(0, 1, 0, 1500), 0);
     }
 
-    // N 7, P 11: the first stays by J, on 0 alone of what is open to the second, just when J has come to be 7
-    private static void worstLate() {
+    /** One that waits on a channel is met when the other one next points at it, whatever the slots are that are left. */
+    private static void worstBySteps() {
         HopMeet x = new HopMeet();
         x.channels(10);
         x.user(0, 0, 0, 200);
         x.user(2, 5, 0, 200);
-        int shifts = 200;
         int want = 0;
-        for (int shift = 0; shift <= shifts; shift++) {
+        for (int shift = 0; shift <= 200; shift++) {
             int i = 0;
             while (x.pointsAt(0, 200 + shift + i) != 5) {
                 i++;
             }
             want = Math.max(want, i);
             due.is("worst(0, 1, " + shift + ")", x.worst(0, 1, shift), want);
+        }
+    }
+
+    /** Pairs whose first meeting by one shift comes in the last of the 1500 slots, or one slot later. */
+    private static void worstWithin() {
+        for (int wakes = 0; wakes <= 200; wakes += 200) {
+            HopMeet x = new HopMeet();
+            x.channels(8);
+            x.user(0, 13, 85, wakes);
+            x.user(0, 25, 23, 200 - wakes);
+            x.open(0, 52);
+            x.open(1, 235);
+            due.is("worst(0, 1, 127)", x.worst(0, 1, 127), 1009);
+            due.is("worst(0, 1, 128): in the last slot", x.worst(0, 1, 128), 1499);
+            due.is("bound(0, 1, 128, 1498)", x.bound(0, 1, 128, 1498), 0);
+            due.is("bound(0, 1, 128, 1499)", x.bound(0, 1, 128, 1499), 1);
+            x.channels(9);
+            x.user(0, 22, 67, wakes);
+            x.user(0, 27, 78, 200 - wakes);
+            x.open(0, 298);
+            x.open(1, 157);
+            due.is("worst(0, 1, 184)", x.worst(0, 1, 184), 1006);
+            due.is("worst(0, 1, 185): one slot too late", x.worst(0, 1, 185), HopMeet.NEVER);
+            due.is("bound(0, 1, 185, 1500)", x.bound(0, 1, 185, 1500), 0);
         }
     }
 

@@ -351,7 +351,7 @@ final class PlainModel {
             return OUTSIDE;
         }
         int worst = 0;
-        for (int shift = 0; shift <= d; shift++) {
+        for (int shift = 0; shift <= d && worst < NEVER; shift++) {
             worst = Math.max(worst, shifted(u, v, shift));
         }
         return worst;
