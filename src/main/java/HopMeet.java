@@ -382,7 +382,7 @@ public final class HopMeet {
         }
         for (int clock = 0; clock < n; clock++) {
             int place = now.placeByClock(u, clock);
-            if (place != NONE) {
+            if (place >= 0 && place < MOST_CHANNELS) {
                 timesOn[place]++;
             }
         }
@@ -448,13 +448,13 @@ public final class HopMeet {
             for (int u = 0; u < userCount; u++) {
                 int[] user = users[u];
                 x = nextLot(x);
-                user[OPEN] = (int) (x % sets);
+                user[OPEN] = remainder((int) x, sets);
                 x = nextLot(x);
-                user[START] = (int) (x % LOTS_OF_START);
+                user[START] = remainder((int) x, LOTS_OF_START);
                 x = nextLot(x);
-                user[STEP] = (int) (x % LOTS_OF_STEP);
+                user[STEP] = remainder((int) x, LOTS_OF_STEP);
                 x = nextLot(x);
-                user[WAKES] = (int) (x % LOTS_OF_WAKES);
+                user[WAKES] = remainder((int) x, LOTS_OF_WAKES);
             }
         }
 
@@ -477,23 +477,21 @@ public final class HopMeet {
         int aim(int u, int clock) {
             int[] user = users[u];
             int start = user[START];
-            int jump = 1 + user[STEP] % channelCount;
+            int jump = 1 + remainder(user[STEP], channelCount);
             switch (user[ROW]) {
                 case JUMPS_AND_STAYS: return aimOfJumpAndStay(start, jump, clock);
-                case SWEEPS: return (start + clock) % channelCount;
-                case WAITS: return start % channelCount;
-                default: return (start + clock * jump) % prime % channelCount;
+                case SWEEPS: return remainder(start + clock, channelCount);
+                case WAITS: return remainder(start, channelCount);
+                default: return remainder(remainder(start + clock * jump, prime), channelCount);
             }
         }
 
         private int aimOfJumpAndStay(int start, int jump, int clock) {
-            int round = clock / (3 * prime);
-            int inRound = clock % (3 * prime);
-            int jumpNow = 1 + (jump - 1 + round / prime) % channelCount;
-            if (inRound < 2 * prime) {
-                return (start + round + inRound * jumpNow) % prime % channelCount;
-            }
-            return jumpNow % channelCount;
+            int round = quotient(clock, 3 * prime);
+            int inRound = remainder(clock, 3 * prime);
+            int jumpNow = 1 + remainder(jump - 1 + quotient(round, prime), channelCount);
+            int target = inRound < 2 * prime ? remainder(start + round + inRound * jumpNow, prime) : jumpNow;
+            return remainder(target, channelCount);
         }
 
         /** Where a user is by its clock, as if nothing were shut; NONE if no channel is open to it. */
@@ -503,7 +501,7 @@ public final class HopMeet {
                 return NONE;
             }
             int channel = aim(u, clock);
-            return holds(open, channel) ? channel : memberWithNumber(open, channel % Integer.bitCount(open));
+            return holds(open, channel) ? channel : memberWithNumber(open, remainder(channel, Integer.bitCount(open)));
         }
 
         int place(int u, int slot) {
@@ -546,6 +544,15 @@ public final class HopMeet {
 
         static boolean holds(int set, int k) {
             return (set >> k & 1) == 1;
+        }
+
+        // What an object holds is a divisor only here, behind a test, so that no division can fail.
+        private static int quotient(int number, int divisor) {
+            return divisor > 0 ? number / divisor : 0;
+        }
+
+        private static int remainder(int number, int divisor) {
+            return divisor > 0 ? number % divisor : 0;
         }
 
         private static int memberWithNumber(int set, int number) {
@@ -668,7 +675,7 @@ public final class HopMeet {
         }
 
         private void settle(int leader, int channel) {
-            if (channel == NONE) {
+            if (channel < 0 || channel >= MOST_CHANNELS) {
                 return;
             }
             // Leaders come rising, so the first one on a channel is the least there.

@@ -33,6 +33,8 @@ public final class LanguageTest {
         String code = withoutComments(source);
         forbiddenWords(code);
         methodsAreShort(code);
+        divisorsAreTested(code);
+        rowsAreMadeByConstructors(code);
         due.end();
     }
 
@@ -129,5 +131,37 @@ public final class LanguageTest {
             due.holds(lines[start].trim() + " is short", last - start < MOST_LINES);
             due.holds(lines[start].trim() + " takes few parameters", lines[start].chars().filter(c -> c == ',').count() < 7);
         }
+    }
+
+    /** A divisor is a constant, a loop's own counter from 2 on, or the one that the line itself tests. */
+    private static void divisorsAreTested(String code) {
+        Set<String> safe = Set.of("LOT_MODULUS", "MOST_UNDONE", "k");
+        int divisions = 0;
+        for (String line : code.split("\n")) {
+            Matcher division = Pattern.compile("[/%]=? *(\\w+|\\()").matcher(line);
+            while (division.find()) {
+                divisions++;
+                String divisor = division.group(1);
+                due.holds("the divisor " + divisor + " is tested in " + line.trim(),
+                    safe.contains(divisor) || line.contains(divisor + " > 0 ?"));
+            }
+        }
+        due.holds("divisions are found", divisions > 0);
+    }
+
+    /** All calls of a run live in one room, so what an object needs is made with it and used again. */
+    private static void rowsAreMadeByConstructors(String code) {
+        String maker = "";
+        int made = 0;
+        for (String line : code.split("\n")) {
+            if (line.matches(" {4}(    )?[a-zA-Z].*\\) \\{") && !line.trim().matches("(if|for|while|switch|else).*")) {
+                maker = line.trim();
+            }
+            if (line.matches(".*\\bnew\\b.*")) {
+                made++;
+                due.holds(line.trim() + " stands in a constructor, not in " + maker, maker.matches("(public )?[A-Z][A-Za-z]*\\(\\) \\{"));
+            }
+        }
+        due.holds("what is made is found", made > 0);
     }
 }
